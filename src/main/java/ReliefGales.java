@@ -761,7 +761,8 @@ public final class ReliefGales {
         }
 
         int secondsOn(int day) {
-            return hasGaleOn(day) ? seaOn(day) - rockHeight + 1 : 0;
+            int height = seaOn(day);
+            return height >= rockHeight ? height - rockHeight + 1 : 0;
         }
 
         int countGaleDays() {
@@ -891,8 +892,9 @@ public final class ReliefGales {
             wentUp = -1;
             wentDown = -1;
             burnOil(usesTogether());
-            if (hasGaleOn(dayNow)) {
-                blowGale();
+            int seconds = secondsOn(dayNow);
+            if (seconds > 0) {
+                blowGale(seconds);
             }
             dayNow++;
         }
@@ -906,7 +908,7 @@ public final class ReliefGales {
             }
         }
 
-        private void blowGale() {
+        private void blowGale(int seconds) {
             galeCount++;
             if (galeCount < GALES_OF_RELIEF) {
                 return;
@@ -917,7 +919,7 @@ public final class ReliefGales {
                 return;
             }
             galeCount = 0;
-            relieve(up, secondsOn(dayNow));
+            relieve(up, seconds);
         }
 
         private void relieve(int up, int seconds) {
