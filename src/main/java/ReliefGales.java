@@ -28,6 +28,16 @@ public final class ReliefGales {
     private static final int TOP_BEDS = 3;
     private static final int TOP_COUNT = 9999;
     private static final int GALES_OF_RELIEF = 3;
+
+    // What can be told to a light by one number, and from where to where it goes.
+    private static final int ROCK = 0;
+    private static final int OIL = 1;
+    private static final int BEDS = 2;
+    private static final int GALES = 3;
+    private static final int MEASURES = 4;
+    private static final int[] LEAST = {0, 0, 1, 0};
+    private static final int[] MOST = {TOP_HEIGHT, TOP_COUNT, TOP_BEDS, GALES_OF_RELIEF - 1};
+
     private static final int KEEPERS = 8;
     private static final int WORDS = 9;
     private static final int TOP_WORD_SET = 511;
@@ -89,13 +99,12 @@ public final class ReliefGales {
     }
 
     public int light(int what, int v) {
-        switch (what) {
-            case 0: return within(v, 0, TOP_HEIGHT) ? real.putRock(v) : tell(BEYOND);
-            case 1: return within(v, 0, TOP_COUNT) ? real.putOil(v) : tell(BEYOND);
-            case 2: return within(v, 1, TOP_BEDS) ? real.putBeds(v) : tell(BEYOND);
-            case 3: return within(v, 0, GALES_OF_RELIEF - 1) ? real.putGales(v) : tell(BEYOND);
-            default: return tell(BEYOND);
+        if (!within(what, 0, MEASURES - 1) || !within(v, LEAST[what], MOST[what])) {
+            return tell(BEYOND);
         }
+        int was = real.measure(what);
+        real.putMeasure(what, v);
+        return was;
     }
 
     // ---- keepers
@@ -660,6 +669,7 @@ public final class ReliefGales {
                 case OLD: return 1;
                 case NEW: return 3;
                 case TWIN: return besideBrother ? 1 : 2;
+                case MATE: return 2;
                 default: return 2;
             }
         }
@@ -728,28 +738,23 @@ public final class ReliefGales {
             System.arraycopy(other.mets, 0, mets, 0, KEEPERS);
         }
 
-        int putRock(int height) {
-            int was = rockHeight;
-            rockHeight = height;
-            return was;
+        int measure(int what) {
+            switch (what) {
+                case ROCK: return rockHeight;
+                case OIL: return oilLeft;
+                case BEDS: return bedCount;
+                default: return galeCount;
+            }
         }
 
-        int putOil(int amount) {
-            int was = oilLeft;
-            oilLeft = amount;
-            return was;
-        }
-
-        int putBeds(int beds) {
-            int was = bedCount;
-            bedCount = beds;
-            return was;
-        }
-
-        int putGales(int gales) {
-            int was = galeCount;
-            galeCount = gales;
-            return was;
+        void putMeasure(int what, int v) {
+            switch (what) {
+                case ROCK: rockHeight = v; break;
+                case OIL: oilLeft = v; break;
+                case BEDS: bedCount = v; break;
+                case GALES: galeCount = v; break;
+                default: break;
+            }
         }
 
         int seaOn(int day) {
@@ -1112,18 +1117,21 @@ public final class ReliefGales {
                 return takeSea(tape, light);
             }
             if (tape.takeWord("rock")) {
-                int height = tape.takeNumber(0, TOP_HEIGHT);
-                return height >= 0 && light.putRock(height) >= 0;
+                return takeMeasure(tape, light, ROCK);
             }
             if (tape.takeWord("oil")) {
-                int amount = tape.takeNumber(0, TOP_COUNT);
-                return amount >= 0 && light.putOil(amount) >= 0;
+                return takeMeasure(tape, light, OIL);
             }
-            if (tape.takeWord("beds")) {
-                int beds = tape.takeNumber(1, TOP_BEDS);
-                return beds >= 0 && light.putBeds(beds) >= 0;
+            return tape.takeWord("beds") && takeMeasure(tape, light, BEDS);
+        }
+
+        private static boolean takeMeasure(Tape tape, Light light, int what) {
+            int v = within(what, 0, MEASURES - 1) ? tape.takeNumber(LEAST[what], MOST[what]) : -1;
+            if (v < 0) {
+                return false;
             }
-            return false;
+            light.putMeasure(what, v);
+            return true;
         }
 
         private static int kindShown(Tape tape) {

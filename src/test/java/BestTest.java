@@ -7,11 +7,13 @@ public final class BestTest {
         kind();
         enough();
         enoughWithAComing();
+        enoughAtMost();
         beds();
         storm();
         change();
         changeBringsAnother();
         heard();
+        eight();
         check.end();
     }
 
@@ -109,6 +111,20 @@ public final class BestTest {
         check.is("22 and not for a day more", x.enough(4), 4);
     }
 
+    private static void enoughAtMost() {
+        ReliefGales x = Check.with(3, 3, 3, 3, 3, 3, 2, 0);
+        calm(x);
+        for (int k = 0; k < 7; k++) {
+            x.set(k, 1, 1);
+        }
+        x.sea(0, 12);
+        x.light(3, 2);
+        check.is("22 just 999", x.enough(56), 999);
+        calm(x);
+        x.turn(6, 0);
+        check.is("22 just 1000", x.enough(50), Check.NONE);
+    }
+
     /** 0 knows two words, those between it and the last know them too and tell nothing. */
     private static void beds() {
         for (int between = 0; between <= 2; between++) {
@@ -128,11 +144,24 @@ public final class BestTest {
             }
             check.is("23 nothing changed", Check.seen(x), before);
         }
+        bedsForTheFirst();
         ReliefGales y = new ReliefGales();
         check.is("23 without keepers", y.beds(100), 1);
         check.is("23 n below", y.beds(0), Check.BEYOND);
         check.is("23 n above", y.beds(101), Check.BEYOND);
         check.is("23 counted", y.status(0), 2);
+    }
+
+    /** It is keeper 0 that learns, being the last to come. */
+    private static void bedsForTheFirst() {
+        ReliefGales x = Check.with(3, 1, 3);
+        x.set(1, 1, 1);
+        x.set(1, 3, 3);
+        x.set(2, 3, 3);
+        x.days(1);
+        x.set(0, 1, 0);
+        stormy(x, 1);
+        check.is("23 words of all, the first too", x.beds(4), 2);
     }
 
     private static void storm() {
@@ -178,21 +207,34 @@ public final class BestTest {
     private static void changeBringsAnother() {
         ReliefGales x = Check.with(2, 3);
         stormy(x, 13);
+        x.oil(200);
         check.is("25 ON, that the other comes", x.change(1), 0);
-        // Were SINCE kept, the NEW one would come back at once with oil, and change be best.
+        // Were SINCE kept, the NEW one, gone ashore, would come back at once with more oil.
         ReliefGales y = Check.with(3, 2);
         y.set(0, 1, 1);
         y.light(2, 1);
+        y.days(1);
         stormy(y, 13);
-        y.light(3, 0);
-        y.days(1);
-        y.light(3, 2);
-        check.is("25 SINCE this DAY", y.change(1), 0);
-        y.image();
-        y.set(0, 1, 0);
-        y.days(1);
-        check.is("25 the OLD one came", y.now(6), 2);
-        check.is("25 with its oil", y.now(2), 97 + 65);
+        y.light(1, 0);
+        check.is("25 SINCE this DAY", y.change(1), Check.NONE);
+        y.light(1, 3);
+        check.is("25 what was used is more", y.change(1), 0);
+    }
+
+    /** With as many as there can be, no question goes beyond the last. */
+    private static void eight() {
+        ReliefGales x = Check.with(0, 1, 2, 3, 4, 5, 0, 1);
+        for (int k = 0; k < 8; k++) {
+            x.set(k, 3, 256 | 1 << k);
+        }
+        calm(x);
+        check.is("21 of eight", x.kind(7, 100), 0);
+        check.is("23 of eight", x.beds(100), 1);
+        check.is("25 of eight", x.change(60), Check.NONE);
+        check.is("26 of eight", x.heard(8, 200), 8);
+        check.is("26 the last of eight", x.heard(7, 0), 1);
+        x.set(7, 1, 1);
+        check.is("25 the last of eight", x.change(1), 7);
     }
 
     private static void heard() {

@@ -322,7 +322,9 @@ public final class DaysTest {
         check.is("19 first two", x.meet(0, 1), 19);
         check.is("19 either way", x.meet(1, 0), 19);
         check.is("19 the next two", x.meet(1, 2), 31);
+        check.is("19 the next two, either way", x.meet(2, 1), 31);
         check.is("19 the last two", x.meet(2, 0), 39);
+        check.is("19 the last two, either way", x.meet(0, 2), 39);
         check.is("19 one and the same", x.meet(1, 1), Check.BEYOND);
         check.is("19 keeper below", x.meet(-1, 0), Check.BEYOND);
         check.is("19 keeper above", x.meet(3, 0), Check.BEYOND);

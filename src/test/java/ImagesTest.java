@@ -56,7 +56,16 @@ public final class ImagesTest {
         check.is("37 the latest", x.undo(), 1);
         check.is("37 again the latest", x.undo(), 1);
         check.is("37 its KEEPERS", x.count(0), 1);
+        x.keeper(3);
+        x.set(1, 1, 1);
+        x.set(1, 3, 8);
+        x.set(1, 4, 8);
+        x.undo();
         check.is("37 a new one comes behind", x.keeper(5), 1);
+        int[] due = {5, 0, 0, 0, 0};
+        for (int what = 0; what < due.length; what++) {
+            check.is("37 and has nothing of another", x.of(1, what), due[what]);
+        }
     }
 
     private static void tear() {

@@ -126,6 +126,9 @@ public final class SheetsTest {
             check.is("33 SEA " + i, x.day(i, 0), first[i]);
         }
         check.is("33 the last", x.day(27, 0), 12);
+        x.write(0, 0, 12);
+        check.is("33 the first too", x.lays(0), 26);
+        check.is("33 SEA 0 then", x.day(0, 0), 12);
         check.is("33 of no numbers", x.sheet(1, 8, 0) + x.lays(1), 0);
         String before = Check.seen(x);
         check.is("33 no such sheet", x.lays(-1), Check.BEYOND);

@@ -11,6 +11,8 @@ public final class TextTest {
         faults();
         ninth();
         faultChangesNothing();
+        whatStoodBehindTheEnd();
+        wholeTape();
         check.end();
     }
 
@@ -81,6 +83,8 @@ public final class TextTest {
         check.is("29 ROCK 0", x.now(1), 0);
         check.is("29 OIL 0", x.now(2), 0);
         check.is("29 BEDS 1", x.now(3), 1);
+        check.is("29 from the least", Check.text(x, "rock 1;oil 1;beds 2"), 3);
+        check.is("29 ROCK 1", x.now(1), 1);
         check.is("29 the latest of several", Check.text(x, "oil 5;oil 6"), 2);
         check.is("29 OIL 6", x.now(2), 6);
         check.is("29 leading digits 0", Check.text(x, "oil 000000000000000000012"), 1);
@@ -158,6 +162,15 @@ public final class TextTest {
         fault("gallery", 0);
         fault("oil 1 !", 6);
         fault("!oil 1", 0);
+        fault("oilz 3", 0);
+        fault("aoil 3", 0);
+        fault("oil{3", 3);
+        fault("oil`3", 3);
+        fault("oil 3:", 5);
+        fault("oil 3/", 5);
+        for (String other : "xeeper xrother xld xew xwin xate xea xock xil xeds keepex olx sex beda".split(" ")) {
+            fault(other + " 1 1", 0);
+        }
     }
 
     private static void ninth() {
@@ -169,6 +182,29 @@ public final class TextTest {
         check.is("29 a 9th", Check.text(x, "oil 1;mate knows 9"), -7);
         check.is("29 no finding", x.status(-1), 0);
         check.is("29 others with eight", Check.text(x, "oil 1"), 1);
+    }
+
+    private static void whatStoodBehindTheEnd() {
+        ReliefGales x = new ReliefGales();
+        Check.feed(x, "oil 34567");
+        x.wipe();
+        check.is("29 a number ends with THE TAPE", Check.text(x, "oil 3"), 1);
+        check.is("29 OIL 3", x.now(2), 3);
+        check.is("29 a word ends with THE TAPE", Check.text(x, "oi"), -1);
+        Check.feed(x, "oil   ");
+        x.wipe();
+        check.is("29 blanks end with THE TAPE", Check.text(x, "oil "), -5);
+    }
+
+    private static void wholeTape() {
+        ReliefGales x = new ReliefGales();
+        check.is("29 120 bytes with blanks last", Check.text(x, "oil 4" + " ".repeat(115)), 1);
+        check.is("29 120 bytes of a number", Check.text(x, "oil " + "0".repeat(115) + "5"), 1);
+        check.is("29 OIL 5", x.now(2), 5);
+        check.is("29 120 bytes of a word", Check.text(x, "oil 4;" + "o".repeat(114)), -7);
+        check.is("29 120 bytes and too early", Check.text(x, " ".repeat(117) + "oil"), -121);
+        check.is("29 many items", Check.text(x, "oil1;".repeat(23) + "oil7"), 24);
+        check.is("29 OIL 7", x.now(2), 7);
     }
 
     private static void faultChangesNothing() {
