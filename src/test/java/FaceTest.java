@@ -53,6 +53,10 @@ public final class FaceTest {
         for (Field f : ReliefGales.class.getDeclaredFields()) {
             check.is("1 " + f + " is private", Modifier.isPrivate(f.getModifiers()), true);
         }
+        for (Method m : ReliefGales.class.getDeclaredMethods()) {
+            boolean isPrivate = Modifier.isPrivate(m.getModifiers());
+            check.is("1 " + m + " bears a public name", isPrivate && openNames.contains(m.getName()), false);
+        }
         for (Class<?> inside : ReliefGales.class.getDeclaredClasses()) {
             for (Method m : inside.getDeclaredMethods()) {
                 check.is("1 " + m + " bears a public name", openNames.contains(m.getName()), false);
