@@ -17,18 +17,6 @@ public final class BestTest {
         check.end();
     }
 
-    /** Each day a gale of so many seconds, and a relief on the first. */
-    private static void stormy(ReliefGales x, int seconds) {
-        Check.level(x, 12);
-        x.light(0, 13 - seconds);
-        x.light(3, 2);
-    }
-
-    private static void calm(ReliefGales x) {
-        Check.level(x, 0);
-        x.light(0, 12);
-    }
-
     private static void rock() {
         ReliefGales x = Check.with(0);
         String before = Check.seen(x);
@@ -65,7 +53,7 @@ public final class BestTest {
         x.set(0, 3, 0b000000001);
         x.set(1, 3, 0b110000000);
         x.set(2, 3, 0b010000000);
-        stormy(x, 1);
+        Check.stormy(x, 1);
         String before = Check.seen(x);
         check.is("21 a NEW one learns most", x.kind(0, 7), 3);
         check.is("21 of several the least", x.kind(0, 6), 0);
@@ -81,7 +69,7 @@ public final class BestTest {
 
     private static void enough() {
         ReliefGales x = Check.with(3, 3, 3, 3, 3, 3, 3, 3);
-        calm(x);
+        Check.calm(x);
         check.is("22 nobody is ON", x.enough(60), 0);
         x.set(0, 1, 1);
         check.is("22 a day", x.enough(1), 3);
@@ -105,7 +93,7 @@ public final class BestTest {
     private static void enoughWithAComing() {
         ReliefGales x = Check.with(0, 0);
         x.set(0, 1, 1);
-        stormy(x, 1);
+        Check.stormy(x, 1);
         check.is("22 before the relief", x.enough(1), 2);
         check.is("22 what comes is enough", x.enough(3), 2);
         check.is("22 and not for a day more", x.enough(4), 4);
@@ -113,14 +101,14 @@ public final class BestTest {
 
     private static void enoughAtMost() {
         ReliefGales x = Check.with(3, 3, 3, 3, 3, 3, 2, 0);
-        calm(x);
+        Check.calm(x);
         for (int k = 0; k < 7; k++) {
             x.set(k, 1, 1);
         }
         x.sea(0, 12);
         x.light(3, 2);
         check.is("22 just 999", x.enough(56), 999);
-        calm(x);
+        Check.calm(x);
         x.turn(6, 0);
         check.is("22 just 1000", x.enough(50), Check.NONE);
     }
@@ -136,7 +124,7 @@ public final class BestTest {
                 x.set(k, 3, 3);
             }
             x.keeper(3);
-            stormy(x, 1);
+            Check.stormy(x, 1);
             String before = Check.seen(x);
             check.is("23 best with " + between, x.beds(1 + 3 * between), 1 + between);
             if (between > 0) {
@@ -160,7 +148,7 @@ public final class BestTest {
         x.set(2, 3, 3);
         x.days(1);
         x.set(0, 1, 0);
-        stormy(x, 1);
+        Check.stormy(x, 1);
         check.is("23 words of all, the first too", x.beds(4), 2);
     }
 
@@ -175,7 +163,7 @@ public final class BestTest {
         x.days(1);
         check.is("24 it comes today as it is", x.storm(), Check.NONE);
         ReliefGales y = Check.with(0);
-        calm(y);
+        Check.calm(y);
         check.is("24 no gale as it is", y.storm(), 0);
         y.days(27);
         check.is("24 the last place", y.storm(), 27);
@@ -186,7 +174,7 @@ public final class BestTest {
 
     private static void change() {
         ReliefGales x = Check.with(0, 3, 3);
-        calm(x);
+        Check.calm(x);
         check.is("25 nobody had best be ON", x.change(1), Check.NONE);
         x.set(0, 1, 1);
         check.is("25 the one that is ON", x.change(1), 0);
@@ -206,7 +194,7 @@ public final class BestTest {
 
     private static void changeBringsAnother() {
         ReliefGales x = Check.with(2, 3);
-        stormy(x, 13);
+        Check.stormy(x, 13);
         x.oil(200);
         check.is("25 ON, that the other comes", x.change(1), 0);
         // Were SINCE kept, the NEW one, gone ashore, would come back at once with more oil.
@@ -214,7 +202,7 @@ public final class BestTest {
         y.set(0, 1, 1);
         y.light(2, 1);
         y.days(1);
-        stormy(y, 13);
+        Check.stormy(y, 13);
         y.light(1, 0);
         check.is("25 SINCE this DAY", y.change(1), Check.NONE);
         y.light(1, 3);
@@ -227,7 +215,7 @@ public final class BestTest {
         for (int k = 0; k < 8; k++) {
             x.set(k, 3, 256 | 1 << k);
         }
-        calm(x);
+        Check.calm(x);
         check.is("21 of eight", x.kind(7, 100), 0);
         check.is("23 of eight", x.beds(100), 1);
         check.is("25 of eight", x.change(60), Check.NONE);

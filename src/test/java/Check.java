@@ -75,6 +75,18 @@ final class Check {
         }
     }
 
+    /** As feed, in a fourth of the calls. */
+    static void feedByFours(ReliefGales x, String text) {
+        for (int at = 0; at < text.length(); at += 4) {
+            int n = Math.min(4, text.length() - at);
+            int bytes = 0;
+            for (int i = 0; i < n; i++) {
+                bytes = bytes << 8 | text.charAt(at + i) & 255;
+            }
+            x.feed(bytes, n);
+        }
+    }
+
     static int text(ReliefGales x, String text) {
         feed(x, text);
         return x.text();
@@ -89,10 +101,85 @@ final class Check {
         return x;
     }
 
+    /** No gale at all. */
+    static void calm(ReliefGales x) {
+        level(x, 0);
+        x.light(0, 12);
+    }
+
+    /** Each day a gale of so many seconds, and a relief on the first. */
+    static void stormy(ReliefGales x, int seconds) {
+        level(x, 12);
+        x.light(0, 13 - seconds);
+        x.light(3, 2);
+    }
+
+    /** From DAY 0 on to a later one. */
+    static void goToDay(ReliefGales x, int day) {
+        for (int i = 0; i < day / 100; i++) {
+            x.days(100);
+        }
+        if (day % 100 > 0) {
+            x.days(day % 100);
+        }
+    }
+
     /** The sea is so high on every day. */
     static void level(ReliefGales x, int height) {
         for (int place = 0; place < 28; place++) {
             x.sea(place, height);
         }
+    }
+
+    /** KEEPERS 0 to 2, sheets of 5, 3 and 9 numbers and a MISSING one, a tape, an image. */
+    static ReliefGales some() {
+        ReliefGales x = with(0, 1, 2);
+        x.set(1, 3, 37);
+        x.set(2, 4, 6);
+        x.image();
+        x.days(10);
+        x.sea(4, 11);
+        x.light(1, 77);
+        x.sheet(0, 16, 5);
+        x.sheet(1, 16, 3);
+        x.sheet(2, 8, 9);
+        for (int i = 0; i < 3; i++) {
+            x.write(0, i + 1, 1000 + i);
+            x.write(1, i, 2000 + i);
+            x.write(2, i + 5, 30 + i);
+        }
+        feedByFours(x, "oil 7;rock 3");
+        x.sea(28, 0);
+        return x;
+    }
+
+    static int[] statuses(ReliefGales x) {
+        int[] all = new int[8];
+        for (int which = -1; which <= 6; which++) {
+            all[which + 1] = x.status(which);
+        }
+        return all;
+    }
+
+    /** All that is held, status() aside; what can only be seen by using it up is used up. */
+    static String all(ReliefGales x) {
+        StringBuilder all = new StringBuilder(seen(x));
+        for (int s = 0; s < 4; s++) {
+            for (int t = 0; t < s; t++) {
+                all.append(" ").append(x.copy(s, 0, t, 0, 0));
+            }
+        }
+        for (int s = 0; s < 4; s++) {
+            int i = 0;
+            long number = 0;
+            for (; i < 41 && number != BEYOND && number != MISSING; i++) {
+                number = x.write(s, i, 0x100010100L);
+                all.append(i == 0 ? "\n" : " ").append(number);
+            }
+            all.append(" by bits ").append(x.write(s, 0, 0));
+        }
+        all.append("\ntape ").append(x.text()).append(seen(x));
+        all.append("\nimage ").append(x.undo()).append(seen(x));
+        return all.toString();
     }
 }

@@ -21,19 +21,6 @@ public final class DaysTest {
         check.end();
     }
 
-    /** Each day a gale of so many seconds, and a relief on the first. */
-    private static void stormy(ReliefGales x, int seconds) {
-        Check.level(x, 12);
-        x.light(0, 13 - seconds);
-        x.light(3, 2);
-    }
-
-    /** No gale at all. */
-    private static void calm(ReliefGales x) {
-        Check.level(x, 0);
-        x.light(0, 12);
-    }
-
     private static void daysByHand() {
         ReliefGales x = Check.with(0, 0);
         check.is("11 seven days", x.days(7), 0);
@@ -74,7 +61,7 @@ public final class DaysTest {
     private static void oilIsUsedBeforeItComes() {
         ReliefGales x = Check.with(0, 0);
         x.set(0, 1, 1);
-        stormy(x, 1);
+        Check.stormy(x, 1);
         x.light(1, 1);
         x.days(1);
         check.is("11 dark before the relief", x.now(5), 1);
@@ -83,12 +70,12 @@ public final class DaysTest {
 
     private static void oilIsHeld() {
         ReliefGales x = Check.with(3);
-        stormy(x, 13);
+        Check.stormy(x, 13);
         x.light(1, 9999 - 137);
         x.days(1);
         check.is("11 just 9999", x.now(2), 9999);
         ReliefGales y = Check.with(3);
-        stormy(y, 13);
+        Check.stormy(y, 13);
         y.light(1, 9999 - 136);
         y.days(1);
         check.is("11 held to 9999", y.now(2), 9999);
@@ -98,7 +85,7 @@ public final class DaysTest {
         ReliefGales x = Check.with(0, 0, 0, 0);
         x.days(1);
         x.set(0, 1, 0);
-        stormy(x, 1);
+        Check.stormy(x, 1);
         check.is("11 least SINCE comes, the least of several", x.days(1), 2);
         check.is("11 the next", x.days(3), 6);
         check.is("11 the next for the longest ON", x.days(3), 12);
@@ -114,7 +101,7 @@ public final class DaysTest {
         y.set(1, 1, 1);
         y.set(2, 1, 1);
         y.light(2, 1);
-        stormy(y, 1);
+        Check.stormy(y, 1);
         check.is("11 one goes though more are ON than BEDS", y.days(1), 14);
         y.set(0, 4, 9999);
         y.set(1, 4, 9998);
@@ -129,7 +116,7 @@ public final class DaysTest {
         x.set(0, 1, 1);
         x.set(0, 3, 7);
         x.set(1, 3, 448);
-        stormy(x, 2);
+        Check.stormy(x, 2);
         check.is("11 relieved", x.days(1), 2);
         check.is("11 a BROTHER told all three", x.of(1, 3), 455);
         check.is("11 a NEW told the least one", x.of(0, 3), 71);
@@ -139,7 +126,7 @@ public final class DaysTest {
         y.set(0, 1, 1);
         y.set(0, 3, 0b000001111);
         y.set(1, 3, 0b110000101);
-        stormy(y, 13);
+        Check.stormy(y, 13);
         y.days(1);
         check.is("11 the least that the other didn't know", y.of(1, 3), 0b110000111);
         check.is("11 and the other way", y.of(0, 3), 0b010001111);
@@ -147,7 +134,7 @@ public final class DaysTest {
 
     private static void lastDays() {
         ReliefGales x = Check.with(0);
-        calm(x);
+        Check.calm(x);
         x.set(0, 1, 1);
         x.light(1, 0);
         for (int i = 0; i < 99; i++) {
@@ -255,7 +242,7 @@ public final class DaysTest {
         check.is("15 counted", x.status(3), 1);
         check.is("15 nothing changed", Check.seen(x), before);
         ReliefGales y = Check.with(0);
-        calm(y);
+        Check.calm(y);
         check.is("15 no gale", y.relief(), Check.NONE);
         y.sea(27, 12);
         check.is("15 one gale in 28 days", y.relief(), 84);
@@ -295,7 +282,7 @@ public final class DaysTest {
 
     private static void dark() {
         ReliefGales x = Check.with(0);
-        calm(x);
+        Check.calm(x);
         check.is("18 nobody is ON", x.dark(), Check.NONE);
         x.set(0, 1, 1);
         x.light(1, 0);
@@ -341,7 +328,7 @@ public final class DaysTest {
     private static void asFarAs200() {
         for (int place = 3; place <= 4; place++) {
             ReliefGales x = Check.with(0, 0, 0, 0, 0, 0);
-            calm(x);
+            Check.calm(x);
             x.sea(place, 12);
             x.light(2, 3);
             x.light(3, 1);

@@ -270,6 +270,9 @@ final class Model {
         return p;
     }
 
+    /** For drawing what a READER may find; no call. */
+    int wordsOfFirst() { return world.people.isEmpty() ? 0 : bitsOf(one(0).words); }
+
     int of(int keeper, int what) {
         if (nobody(keeper) || out(what, 0, 5)) {
             return finding(BEYOND);

@@ -196,14 +196,20 @@ public final class TextTest {
         check.is("29 blanks end with THE TAPE", Check.text(x, "oil "), -5);
     }
 
+    private static int wholeText(ReliefGales x, String text) {
+        Check.feedByFours(x, text);
+        check.is("27 all of it", x.count(1), text.length());
+        return x.text();
+    }
+
     private static void wholeTape() {
         ReliefGales x = new ReliefGales();
-        check.is("29 120 bytes with blanks last", Check.text(x, "oil 4" + " ".repeat(115)), 1);
-        check.is("29 120 bytes of a number", Check.text(x, "oil " + "0".repeat(115) + "5"), 1);
+        check.is("29 120 bytes with blanks last", wholeText(x, "oil 4" + " ".repeat(115)), 1);
+        check.is("29 120 bytes of a number", wholeText(x, "oil " + "0".repeat(115) + "5"), 1);
         check.is("29 OIL 5", x.now(2), 5);
-        check.is("29 120 bytes of a word", Check.text(x, "oil 4;" + "o".repeat(114)), -7);
-        check.is("29 120 bytes and too early", Check.text(x, " ".repeat(117) + "oil"), -121);
-        check.is("29 many items", Check.text(x, "oil1;".repeat(23) + "oil7"), 24);
+        check.is("29 120 bytes of a word", wholeText(x, "oil 4;" + "o".repeat(114)), -7);
+        check.is("29 120 bytes and too early", wholeText(x, " ".repeat(117) + "oil"), -121);
+        check.is("29 many items", wholeText(x, "oil1;".repeat(23) + "oil7"), 24);
         check.is("29 OIL 7", x.now(2), 7);
     }
 
